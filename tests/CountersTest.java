@@ -111,9 +111,24 @@ public final class CountersTest {
             CHECKS.due("none of a fault", Checks.counter(x, "price 9;"), k < 5 ? -18 : LittleMore.FULL);
             CHECKS.due("counter " + k + " holds still", x.told(1), k);
         }
+        CHECKS.due("LEARN without", x.told(2), 1);
         CHECKS.due("the text stays when it is full", x.count(4), 8);
         CHECKS.due("count(1)", x.count(1), 6);
         CHECKS.due("counter(), full", x.counter(), LittleMore.FULL);
+    }
+
+    private static void without() {
+        LittleMore x = Checks.shop(0, 9, 50);
+        Checks.counter(x, "price 7;learn 4;more 3 c=0");
+        CHECKS.due("PRICE", x.told(1), 7);
+        CHECKS.due("LEARN", x.told(2), 4);
+        CHECKS.due("MORE", x.of(0, 8), 8);
+        Checks.counter(x, "price 8;learn 5;");
+        CHECKS.due("PRICE behind a fault", x.told(1), 7);
+        Checks.counter(x, "less 1 c=0");
+        CHECKS.due("PRICE without", x.told(1), 5);
+        CHECKS.due("LEARN without", x.told(2), 1);
+        CHECKS.due("MORE by the newest alone", x.of(0, 8), 4);
     }
 
     /** MORE of customer 1 of kind 5 with TRUST 4, OVER 30, NOES 1, VISITS 8, OFF 2, by this counter. */
@@ -193,6 +208,7 @@ public final class CountersTest {
         clauses();
         feed();
         full();
+        without();
         tests();
         expressions();
         sums();

@@ -125,6 +125,8 @@ public final class CustomersTest {
         CHECKS.due("row(0, 0, 4)", x.row(0, 0, 4), 0);
         CHECKS.due("row(0, 3, 9)", x.row(0, 3, 9), 0);
         CHECKS.due("row(0, 0, 5)", x.row(0, 0, 5), 4);
+        CHECKS.due("row(0, 0, 0)", x.row(0, 0, 0), 5);
+        CHECKS.due("row(0, 0, 5) again", x.row(0, 0, 5), 0);
         CHECKS.due("row(0, 0, 10)", x.row(0, 0, 10), LittleMore.BAD);
         CHECKS.due("row(0, 0, -1)", x.row(0, 0, -1), LittleMore.BAD);
         CHECKS.due("row(0, 4, 10)", x.row(0, 4, 10), LittleMore.NONE);

@@ -12,7 +12,8 @@ public final class EdgesTest {
     private static final long[] FEW = {Integer.MIN_VALUE, -1, 0, 3, Integer.MAX_VALUE};
     private static final Set<String> ASKING = Set.of("of", "told", "on", "asked", "dare", "learnt", "nobody", "lost",
         "over", "nearest", "who", "offs", "odds", "mean", "looked", "judge", "trace", "taken", "count", "read");
-    private static final String LONGEST = "more 9 c<9|k<9&!t>9;less 3 (o=0|n>4)&d<5;more 2 ((((c=1))))|t<9|o<9|n<9|d<9;learn 2;more 1 !!!!c=4";
+    private static final String LONGEST = "more 9 c<9|k<9&!t>9;less 3 (o=0|n>4)&d<5;"
+        + "more 2 ((((c=1))))|t<9|o<9|n<9|d<9;learn 2;more 1 !!!!c=4";
 
     private static LittleMore full() {
         LittleMore x = Checks.shop(0, 4, 50, 1, 9, 40, 4, 8, 99, 3, 0, 30, 5, 9, 25, 6, 1, 60);

@@ -128,8 +128,7 @@ public final class FaceTest {
         String source = Files.readString(Path.of("src/main/java/LittleMore.java"));
         CHECKS.holds("signs 1 to 127 alone", source.chars().allMatch(c -> c > 0 && c < 128));
         String bare = bare(source);
-        String[] banned = {"\\bthrow\\b", "\\bthrows\\b", "\\btry\\b", "\\bcatch\\b", "\\bsynchronized\\b", "\\bassert\\b",
-            "->", "::", "@", "Exact\\b", "\"\"\\s*\\+", "\\+\\s*\"\"", "\\bSystem\\.(?!arraycopy)", "\\bpackage\\b",
+        String[] banned = {"\\bthrows?\\b", "\\btry\\b", "\\bcatch\\b", "\\bsynchronized\\b", "\\bassert\\b", "->", "::", "@", "Exact\\b", "\"\"\\s*\\+", "\\+\\s*\"\"", "\\bSystem\\.(?!arraycopy)", "\\bpackage\\b",
             "\\bwhile\\s*\\(true", "\\bfor\\s*\\(;;", "\\bdouble\\b", "\\bfloat\\b", "\\bRandom\\b", "\\bhashCode\\b"};
         for (String word : banned) {
             CHECKS.holds("no " + word, !Pattern.compile(word).matcher(bare).find());

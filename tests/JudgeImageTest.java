@@ -98,6 +98,7 @@ public final class JudgeImageTest {
         CHECKS.holds("all is otherwise", !before.equals(kept(x)));
         CHECKS.due("undo()", x.undo(), 2);
         CHECKS.holds("all is as the image", before.equals(kept(x)));
+        CHECKS.due("the row is as the image", x.row(0, 2, 3), 3);
         CHECKS.due("the new customer is none", x.of(2, 0), LittleMore.NONE);
         CHECKS.due("the counters that were made stay", x.count(1), 2);
         CHECKS.due("another customer", x.customer(3, 1, 33), 2);
@@ -135,6 +136,18 @@ public final class JudgeImageTest {
         CHECKS.due("no COUNTER holds", x.told(1), 5);
         x.customer(6, 1, 20);
         CHECKS.due("the row of a new one", x.row(0, 0, 1), 0);
+        x.undo();
+        x.customer(5, 0, 20);
+        x.visit(0);
+        x.visit(0);
+        x.visit(0);
+        CHECKS.due("OVER of one who has left", x.of(0, 4), 1);
+        x.undo();
+        x.customer(1, 4, 30);
+        int[] first = {1, 4, 30, 3, 0, 0, 0, 0};
+        for (int what = 0; what < first.length; what++) {
+            CHECKS.due("a new one in its place: of(0, " + what + ")", x.of(0, what), first[what]);
+        }
         x.visit(0);
         CHECKS.due("image() once more", x.image(), 1);
         x.visit(0);

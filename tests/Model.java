@@ -10,7 +10,8 @@ import java.util.TreeSet;
  * trying all readings of each of its beginnings; the acts are a table of bodies.
  */
 final class Model {
-    static final int NUMBER = 0, KIND = 1, V = 2, WANTS = 3, TRUST = 4, OVER = 5, NOES = 6, VISITS = 7, GONE = 8, ROW = 9;
+    private static final int NUMBER = 0, KIND = 1, V = 2, WANTS = 3, TRUST = 4, OVER = 5;
+    private static final int NOES = 6, VISITS = 7, GONE = 8, ROW = 9;
     private static final int[] ABOVE = {-1, 0, 0, 0, 1, 2, 3};
     private static final int[][] BODIES = {
         {0, 0, 10}, {0, 1, 11}, {0, 2, 12}, {1, 1, 20}, {2, 0, 30}, {3, 2, 40}, {4, 0, 50}, {4, 1, 51},
@@ -621,7 +622,9 @@ final class Model {
 
     public int act(int customer, int act, int x) {
         trace.clear();
-        return none(customer) || !in(act, 0, 2) ? 0 : run(now.people.get(customer), now.people.get(customer)[KIND], act, x);
+        if (none(customer) || !in(act, 0, 2)) return 0;
+        int[] p = now.people.get(customer);
+        return run(p, p[KIND], act, x);
     }
 
     public int trace(int i) {
@@ -672,7 +675,8 @@ final class Model {
         if (!in(tape, 0, 5) || !in(other, 0, 5)) return -1;
         if (rows[tape] == null || rows[other] == null) return -11;
         if (sorts[tape] != sorts[other]) return -12;
-        if (n < 0 || i < 0 || j < 0 || (long) i + n > rows[tape].length || (long) j + n > rows[other].length) return -13;
+        if (n < 0 || i < 0 || j < 0) return -13;
+        if ((long) i + n > rows[tape].length || (long) j + n > rows[other].length) return -13;
         long[] were = rows[tape].clone();
         for (int k = 0; k < n; k++) {
             rows[other][j + k] = were[i + k];

@@ -9,7 +9,8 @@ import java.util.Random;
 /** All promises: long runs of calls with drawn arguments on LittleMore and on Model, which must answer alike. */
 public final class ModelTest {
     private static final int RUNS = 600, CALLS = 512;
-    private static final int[] FAR = {Integer.MIN_VALUE, Integer.MIN_VALUE + 1, -1000, -3, -2, 101, 1000, Integer.MAX_VALUE - 1, Integer.MAX_VALUE};
+    private static final int[] FAR = {Integer.MIN_VALUE, Integer.MIN_VALUE + 1, -1000, -3, -2, 101, 1000,
+        Integer.MAX_VALUE - 1, Integer.MAX_VALUE};
 
     private final Checks checks = new Checks("ModelTest");
     private final Map<String, Method> ours = new HashMap<>();
@@ -72,7 +73,6 @@ public final class ModelTest {
             case "tape2": return random.nextInt(10) == 0 ? in(-1, 61) : in(0, 9);
             case "item1": case "read1": case "shift1": case "shift3": return in(-edge, 8 + edge);
             case "shift4": return in(-edge, 4 + edge);
-            case "judge0": case "tape0": case "item0": case "read0": case "shift0": case "shift2": return in(-edge, 5 + edge);
             default: return in(-edge, 5 + edge);
         }
     }

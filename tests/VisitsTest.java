@@ -24,7 +24,7 @@ public final class VisitsTest {
             new int[] {225, 4, 5, 0}, new int[] {230, 5, 6, 0}, new int[] {215, 3, 3, 1});
         visits("CHILD", Checks.shop(3, 0, 31),
             new int[] {100, 4, 0, 0}, new int[] {105, 5, 0, 0});
-        // ASKS 38, MORE 5 above 4: 40, nothing over; then MORE 3 within 4: 41, over 1; then ASKS 37, MORE 4 above 3: 39.
+        // ASKS 38, MORE 5 above 4: 40, nothing over; MORE 3 within 4: 41, over 1; ASKS 37, MORE 4 above 3: 39.
         visits("COUNTING", Checks.shop(4, 9, 40),
             new int[] {200, 1, 0, 1}, new int[] {205, 2, 1, 1}, new int[] {195, 0, 0, 2});
         visits("LEAVING", Checks.shop(5, 0, 20),
@@ -129,6 +129,12 @@ public final class VisitsTest {
         on(x, 1, 3, 64, 320, 3, 0, 1);
         on(x, 1, 40, 64, 320, 3, 0, 1);
         CHECKS.due("VISITS behind what is asked", x.of(0, 6), 0);
+        LittleMore told = Checks.shop(6, 0, 20);
+        for (int part = 0; part < 4; part++) {
+            told.row(0, part, part + 1);
+        }
+        // 11, 12, 13, 14, 11 and 5, 6, 7, 8, 9 more.
+        on(told, 0, 5, 96, 480, 0, 8, 0);
         x.visit(0);
         on(x, 0, 2, 109, 545, 1, 3, 3);
         x.set(1, 3, 1);
