@@ -16,7 +16,8 @@ public final class BoundsOfBestTest {
     private static void asked() {
         asked("a is less than ASKS", ONE, 45, 50);
         asked("a is more than ASKS", "customer 3 6 50", 45, 50);
-        asked("the half of MORE", "customer 0 4 50", 48, 50);
+        asked("MORE is just LETS", "customer 0 5 50", 45, 50);
+        asked("MORE is above LETS by one: the half (cut)", "customer 0 4 50", 48, 50);
         String ten = "customer 3 6 10, set 0 1 0, knife ";
         asked("a 2", ten + "8", 2, 10);
         asked("the least a is 1", ten + "9", 1, 10);

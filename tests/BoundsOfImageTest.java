@@ -61,6 +61,11 @@ public final class BoundsOfImageTest {
         B.takes("29 how many CUSTOMERS: as in THE IMAGE", ONE + ", image, customer 0 6 50 *5", "undo", 1, "count 0 = 1",
             "of 1 0 = -1", "customer 3 1 60 = 1");
         B.takes("29 six are no more than one then", "image, customer 0 6 50 *6", "undo", 0, "customer 5 0 20 = 0");
+        B.takes("29 who comes then is as at first", "image, customer 5 0 20, visit 0 *3, undo", "customer 6 7 60", 0,
+            "of 0 0 = 6", "of 0 1 = 7", "of 0 2 = 60", "of 0 3 = 3", "of 0 4 = 0", "of 0 5 = 0", "of 0 6 = 0",
+            "of 0 7 = 0");
+        B.takes("29 who comes then has a ROW of 0", "image, customer 6 0 20, row 0 0 1, row 0 1 2, row 0 2 3, row 0 3 4, "
+            + "undo", "customer 6 7 60", 0, "row 0 0 9 = 0", "row 0 1 9 = 0", "row 0 2 9 = 0", "row 0 3 9 = 0");
         B.takes("28 the newest IMAGE", ONE + ", image, visit 0, image, visit 0", "undo", 1, "of 0 6 = 1");
         B.takes("29 THE IMAGE stays", ONE + ", image, visit 0, undo, visit 0 *2", "undo", 1, "of 0 6 = 0");
         B.takes("29 no COUNTER holds, as in THE IMAGE", ONE + ", image, counter:price 7;more 9 c=0", "undo", 1,

@@ -95,9 +95,11 @@ public final class BoundsOfSeenTest {
 
     private static void odds() {
         fraction("23 n: the least", ONE, "odds 0", 0, 1);
-        fraction("23 n: the largest", LATE, "odds 40", NO, NO);
-        fraction("23 n: one less than the largest", LATE, "odds 39", 1, 1);
-        fraction("23 n: two less than the largest", LATE, "odds 38", 0, 1);
+        String late = "customer 0 0 50, knife 3, set 0 1 0, counter:less 99 n>39";
+        fraction("23 n: the largest", late, "odds 40", 0, 1);
+        fraction("23 n: one less than the largest", late, "odds 39", 1, 1);
+        fraction("23 NO: nobody is left behind the fortieth", LATE, "odds 40", NO, NO);
+        fraction("23 one is left behind the 39th", LATE, "odds 39", 1, 1);
         fraction("23 n: too small", ONE, "odds -1", NO, NO);
         fraction("23 n: too large", ONE, "odds 41", NO, NO);
         fraction("23 n: far too small", ONE, "odds MIN", NO, NO);
