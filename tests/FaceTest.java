@@ -133,11 +133,36 @@ public final class FaceTest {
         for (String word : banned) {
             CHECKS.holds("no " + word, !Pattern.compile(word).matcher(bare).find());
         }
+        library(bare);
+        lengths(bare);
         Matcher imports = Pattern.compile("import ([^;]*);").matcher(bare);
         while (imports.find()) {
             CHECKS.holds("import of " + imports.group(1),
                 Set.of("java.util.ArrayList", "java.util.Arrays").contains(imports.group(1)));
         }
+    }
+
+    private static void library(String bare) {
+        Set<String> listed = Set.of("Math.abs", "Math.floorMod", "Math.max", "Math.min", "Integer.bitCount",
+            "Arrays.copyOf", "Arrays.fill", "System.arraycopy", "Long.MIN_VALUE");
+        Matcher used =
+            Pattern.compile("\\b(Math|Integer|Long|Arrays|System|Character|List|Objects)\\.\\w+").matcher(bare);
+        while (used.find()) {
+            CHECKS.holds(used.group() + " is listed", listed.contains(used.group()));
+        }
+    }
+
+    /** A method's lines: from its name's to the one on which its brace ends, as far in as it began. */
+    private static void lengths(String bare) {
+        String whole = "(?ms)^( {4}| {8})(?! )[\\w<>\\[\\] ]+\\([^;{]*\\) \\{$.*?^\\1\\}$";
+        Matcher method = Pattern.compile(whole).matcher(bare);
+        int methods = 0;
+        while (method.find()) {
+            long lines = method.group().lines().count();
+            CHECKS.holds(method.group().lines().findFirst().get().strip() + ": " + lines + " lines", lines <= 60);
+            methods++;
+        }
+        CHECKS.holds("methods are found: " + methods, methods > 100);
     }
 
     public static void main(String[] args) throws IOException {

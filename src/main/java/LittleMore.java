@@ -193,13 +193,13 @@ public final class LittleMore {
         if (one.gone) {
             return STATE;
         }
-        int bought = now.comes(one);
+        int bought = now.makeVisit(one);
         now.boundVisits();
         return bought * now.counter.price;
     }
 
     public int saturday() {
-        int bought = now.allCome();
+        int bought = now.makeSaturday();
         now.boundVisits();
         return bought * now.counter.price;
     }
@@ -214,7 +214,7 @@ public final class LittleMore {
             return BAD;
         }
         int noesBefore = one.noes;
-        int bought = shop.comesAlone(one, n);
+        int bought = shop.makeVisitsAlone(one, n);
         switch (what) {
             case 0: return bought;
             case 1: return bought * shop.counter.price;
@@ -234,7 +234,7 @@ public final class LittleMore {
         if (one.gone) {
             return NOT_ANY;
         }
-        int added = now.addedFor(one);
+        int added = now.boughtBeyondAsked(one);
         // What is added does not hang on a: the nearest a is the one that leaves just room for it.
         int a = Math.max(ASK_LEAST, one.wants - added);
         return what == 0 ? a : a + added;
@@ -272,7 +272,7 @@ public final class LittleMore {
             if (shop.moreFor(one) <= q) {
                 return visits;
             }
-            shop.comesAlone(one, 1);
+            shop.makeVisitsAlone(one, 1);
         }
         return NOT_ANY;
     }
@@ -280,10 +280,10 @@ public final class LittleMore {
     public int nobody() {
         Shop shop = shopToTry();
         for (int saturdays = 0; saturdays <= VISITS_ASKED_MOST; saturdays++) {
-            if (shop.refusing() == 0) {
+            if (shop.howManyRefuse() == 0) {
                 return saturdays;
             }
-            shop.allCome();
+            shop.makeSaturday();
         }
         return NOT_ANY;
     }
@@ -304,7 +304,7 @@ public final class LittleMore {
         if (isOutside(p, 1, P_MOST) || isOutside(n, 1, VISITS_ASKED_MOST)) {
             return BAD_OVER;
         }
-        return shop.comesAlone(one, n) * shop.counter.price - n * one.wants * p;
+        return shop.makeVisitsAlone(one, n) * shop.counter.price - n * one.wants * p;
     }
 
     public int nearest(int n) {
@@ -316,7 +316,7 @@ public final class LittleMore {
         int least = 0;
         for (int c = 0; c < shop.size; c++) {
             Customer one = shop.people[c];
-            int far = Math.abs(shop.comesAlone(one, n) - n * one.wants);
+            int far = Math.abs(shop.makeVisitsAlone(one, n) - n * one.wants);
             if (found < 0 || far < least) {
                 least = far;
                 found = c;
@@ -374,7 +374,7 @@ public final class LittleMore {
             return NO;
         }
         Shop shop = shopBehind(n);
-        return partOf(shop.refusing(), shop.staying(), part);
+        return partInLowestTerms(shop.howManyRefuse(), shop.howManyStay(), part);
     }
 
     public long mean(int n, int part) {
@@ -385,11 +385,11 @@ public final class LittleMore {
         long tooMuch = 0;
         long visits = 0;
         for (int saturday = 0; saturday < n; saturday++) {
-            visits += shop.staying();
-            tooMuch -= shop.portions();
-            tooMuch += shop.allCome();
+            visits += shop.howManyStay();
+            tooMuch -= shop.askedTogether();
+            tooMuch += shop.makeSaturday();
         }
-        return partOf(tooMuch, visits, part);
+        return partInLowestTerms(tooMuch, visits, part);
     }
 
     public int book(int customer) {
@@ -416,7 +416,7 @@ public final class LittleMore {
                 if (shop.refuses(one)) {
                     return one.number;
                 }
-                shop.comes(one);
+                shop.makeVisit(one);
             }
         }
         return NOT_ANY;
@@ -600,7 +600,7 @@ public final class LittleMore {
     private Shop shopBehind(int saturdays) {
         Shop shop = shopToTry();
         for (int k = 0; k < saturdays; k++) {
-            shop.allCome();
+            shop.makeSaturday();
         }
         return shop;
     }
@@ -610,7 +610,7 @@ public final class LittleMore {
         shop.off = off;
         int bought = 0;
         for (int k = 0; k < saturdays; k++) {
-            bought += shop.allCome();
+            bought += shop.makeSaturday();
         }
         return bought * shop.counter.price;
     }
@@ -622,8 +622,7 @@ public final class LittleMore {
         return one != null && shop.cutsAreSeen(one);
     }
 
-    /** The part 0 above, 1 below the line of a fraction in lowest terms; NO, if nothing is below. */
-    private static long partOf(long above, long below, int part) {
+    private static long partInLowestTerms(long above, long below, int part) {
         long divisor = commonDivisor(above, below);
         if (below == 0 || divisor == 0) {
             return NO;
@@ -643,7 +642,7 @@ public final class LittleMore {
         return divisor;
     }
 
-    /** The customers, the knife, the counter that holds, what is seen and booked: all that an image keeps. */
+    /** All that an image keeps, and nothing else: so an image, and a trial of what is only asked, is one copy. */
     private static final class Shop {
         final Customer[] people = new Customer[CUSTOMERS_MOST];
         final int[] seen = new int[SEEN_MOST];
@@ -678,21 +677,20 @@ public final class LittleMore {
         }
 
         int moreFor(Customer one) {
-            return Math.max(0, off + one.trust + counter.clausesFor(one));
+            return Math.max(0, off + one.trust + counter.addedByClauses(one));
         }
 
         boolean refuses(Customer one) {
             return moreFor(one) > one.kind.patience(one);
         }
 
-        /** What one would buy in its next visit beyond what it asks for. */
-        int addedFor(Customer one) {
+        int boughtBeyondAsked(Customer one) {
             int more = moreFor(one);
             return more > one.kind.patience(one) ? more / 2 : more;
         }
 
-        /** A visit of one who is not gone: what it buys. */
-        int comes(Customer one) {
+        // Who is gone makes no visit: that is looked at by whoever calls, as the calls answer it in different ways.
+        int makeVisit(Customer one) {
             int more = moreFor(one);
             boolean no = more > one.kind.patience(one);
             int bought = one.kind.portion(one) + (no ? more / 2 : more);
@@ -706,27 +704,25 @@ public final class LittleMore {
             return bought;
         }
 
-        /** So many visits of one alone, as far as it is not gone: what it buys in all of them. */
-        int comesAlone(Customer one, int visits) {
+        int makeVisitsAlone(Customer one, int visits) {
             int bought = 0;
             for (int k = 0; k < visits && !one.gone; k++) {
-                bought += comes(one);
+                bought += makeVisit(one);
             }
             return bought;
         }
 
-        /** A Saturday: what all buy. */
-        int allCome() {
+        int makeSaturday() {
             int bought = 0;
             for (int c = 0; c < size; c++) {
                 if (!people[c].gone) {
-                    bought += comes(people[c]);
+                    bought += makeVisit(people[c]);
                 }
             }
             return bought;
         }
 
-        /** Only visits that are made count up to a bound, not those that are tried. */
+        // Not in each visit: those that are only tried go on beyond the bound.
         void boundVisits() {
             for (int c = 0; c < size; c++) {
                 people[c].visits = Math.min(VISITS_MOST, people[c].visits);
@@ -743,12 +739,11 @@ public final class LittleMore {
             return bits;
         }
 
-        int staying() {
+        int howManyStay() {
             return size - Integer.bitCount(goneBits());
         }
 
-        /** How many of those who are not gone would say no. */
-        int refusing() {
+        int howManyRefuse() {
             int many = 0;
             for (int c = 0; c < size; c++) {
                 if (!people[c].gone && refuses(people[c])) {
@@ -758,8 +753,7 @@ public final class LittleMore {
             return many;
         }
 
-        /** What those who are not gone ask for, together. */
-        int portions() {
+        int askedTogether() {
             int sum = 0;
             for (int c = 0; c < size; c++) {
                 if (!people[c].gone) {
@@ -774,13 +768,13 @@ public final class LittleMore {
                 if (one.gone || one.kind.portion(one) + moreFor(one) != seen[k]) {
                     return false;
                 }
-                comes(one);
+                makeVisit(one);
             }
             return true;
         }
     }
 
-    /** What is told of one customer; its kind says how it behaves. */
+    /** Its kind has no state of its own, so that those who are copied may share it. */
     private static final class Customer {
         final int number;
         final int[] extras = new int[ROW_LENGTH];
@@ -831,7 +825,7 @@ public final class LittleMore {
         }
     }
 
-    /** The kind CUSTOMER, from which the others come. Each act's body adds its number to the bodies as it begins. */
+    /** CUSTOMER, from which the other kinds come. A body tells its number first: a trace has them as they began. */
     private static class Kind {
         final int number;
 
@@ -1006,10 +1000,9 @@ public final class LittleMore {
             numbers = Arrays.copyOf(text.numbers, text.codeCount);
         }
 
-        /** What all clauses together add for a customer; below 0, if they take away. */
-        int clausesFor(Customer one) {
+        int addedByClauses(Customer one) {
             int sum = 0;
-            // What has been found and not yet used, a bit each, the latest lowest: never more than some eleven.
+            // A bit for each operand that waits, the latest lowest: an int has room, as eleven at most can wait.
             int found = 0;
             for (int k = 0; k < codes.length; k++) {
                 int code = codes[k];
@@ -1057,7 +1050,7 @@ public final class LittleMore {
         }
     }
 
-    /** The text, and how a counter is read from it: where a reading fails, the place is the fault. */
+    /** Takes a sign only where a counter can begin so: thus the place at which a reading ends early is the fault. */
     private static final class Text {
         private static final int END = -1, NO_WORD = -1;
         private static final int MORE = 0, LESS = 1, PRICE = 2, LEARN = 3, WORDS = 4;
@@ -1074,7 +1067,6 @@ public final class LittleMore {
         int codeCount = 0;
         private int latestNumber = 0;
 
-        /** The counter, or null: then the place is the fault. */
         Counter toCounter() {
             place = 0;
             price = PRICE_FIRST;
@@ -1114,7 +1106,7 @@ public final class LittleMore {
             int furthest = 0;
             for (int word = 0; word < WORDS; word++) {
                 String name = nameOf(word);
-                int alike = alikeWith(name);
+                int alike = howManyAlike(name);
                 if (alike == name.length()) {
                     place += alike;
                     return word;
@@ -1134,8 +1126,7 @@ public final class LittleMore {
             }
         }
 
-        /** How many signs from the place on are as the name's. */
-        private int alikeWith(String name) {
+        private int howManyAlike(String name) {
             for (int k = 0; k < name.length(); k++) {
                 if (signAt(place + k) != name.charAt(k)) {
                     return k;
@@ -1144,7 +1135,7 @@ public final class LittleMore {
             return name.length();
         }
 
-        /** E: one T at least, with | between. */
+        // The document's E.
         private boolean readAny(int within) {
             if (!readAll(within)) {
                 return false;
@@ -1157,7 +1148,7 @@ public final class LittleMore {
             return true;
         }
 
-        /** T: one F at least, with & between. */
+        // The document's T.
         private boolean readAll(int within) {
             if (!readOne(within)) {
                 return false;
@@ -1170,7 +1161,7 @@ public final class LittleMore {
             return true;
         }
 
-        /** F, within so many others: !F, (E) or a test. */
+        // The document's F.
         private boolean readOne(int within) {
             if (within < DEPTH_MOST && takes('!')) {
                 return readOne(within + 1) && putCode(Counter.NOT, 0);
@@ -1213,7 +1204,6 @@ public final class LittleMore {
             return true;
         }
 
-        /** Where in the choice the sign at the place stands; below 0, if it is none of these. */
         private int takesOneOf(String choice) {
             int sign = signAt(place);
             if (sign == END) {
